@@ -445,6 +445,17 @@ public final class PromiseTest {
         y.hold(0, 0, false);
         due("none counts", y.table(63), 0);
         due("none is found", y.found(0, 0), -1);
+        hashesAloneAreLeft();
+    }
+
+    /** Four rows in the same cells, whose counts, keys and v undo one another: only their h(3) do not. */
+    private static void hashesAloneAreLeft() {
+        DigestTrees x = new DigestTrees();
+        x.row(0, 0, 2, 7);
+        x.row(0, 0, 20, 7);
+        x.row(1, 0, 34, 7);
+        x.row(1, 0, 52, 7);
+        due("h(3) alone is not 0", x.table(6), -1);
     }
 
     private static void promise13() {
