@@ -256,14 +256,13 @@ public final class DigestTrees {
     private static final class Side {
         private final boolean[] present = new boolean[SLOTS];
         private final long[] values = new long[SLOTS];
-        private final boolean[] holding = new boolean[NODES];
+        private final boolean[] holding = {true, true, true, true};
         private final int[] digests = new int[RANGES * DIGEST_WORDS];
         private final int[] sums = new int[RANGES];
         private final int[] counting = new int[RANGES];
         private int size;
 
         Side() {
-            Arrays.fill(holding, true);
         }
 
         int size() {
