@@ -14,6 +14,7 @@ public final class DigestTrees {
     private static final int SLOTS = 256;
     private static final int FIRST_LEAF = 32;
     private static final int RANGES = 64;
+    private static final int LEVELS = 6;
     private static final int LEAF_ROWS = 8;
     private static final int NODE_LEAVES = 8;
     private static final int DIGEST_WORDS = 8;
@@ -173,7 +174,7 @@ public final class DigestTrees {
         }
         int first = range;
         int last = range;
-        while (first < FIRST_LEAF) {
+        for (int level = 0; level < LEVELS && first < FIRST_LEAF; level++) {
             first = 2 * first;
             last = 2 * last + 1;
         }

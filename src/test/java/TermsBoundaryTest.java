@@ -118,8 +118,22 @@ public final class TermsBoundaryTest extends Boundaries {
                 same("its digest", hex(x, own, 48).equals(NOTHING), due == 0);
                 due("by a table", () -> x.table(6), due);
                 due("the next node's", () -> x.row(own, 3, 1, 5) + " " + x.leaf(56, 3 + own), "2 1");
+                whileHeldSo(own, zero, one);
             }
         }
+    }
+
+    private static void whileHeldSo(int own, boolean zero, boolean one) {
+        DigestTrees x = with(y -> y.hold(0, 2, zero));
+        x.hold(1, 2, one);
+        x.row(own, 2, 1, 5);
+        String left = zero && one ? sha(bytes(2, 1, 5)) : NOTHING;
+        same("a row that comes then", hex(x, own, 48), left);
+        x.row(own, 2, 2, 6);
+        x.drop(own, 2, 2);
+        same("a row that goes then", hex(x, own, 48), left);
+        due("what is made anew then", () -> x.anew(own) + " " + x.leaf(1, 3 + own), zero && one ? "0 1" : "0 0");
+        due("nothing is broken", () -> x.broken(own), -1);
     }
 
     private static void termsOfRanges() {
