@@ -532,7 +532,7 @@ public final class TermsBoundaryTest extends Boundaries {
     }
 
     /**
-     * Rows of node 0, sought by hand for a table of 6 cells: by count, by KEYS, by v or by h(3) alone
+     * Rows of node 0, which a search found for a table of 6 cells: by count, by KEYS, by v or by h(3) alone
      * does their cell differ from 0, or it looks like one of a row that is not there.
      */
     private static void termsOfPeeling() {
