@@ -341,17 +341,13 @@ public final class DigestTrees {
                 hashLeaf(leaf, sha);
                 changed += keep(leaf, sha);
             }
-            int low = first / 2;
-            int high = last / 2;
-            while (low >= 1) {
+            for (int low = first / 2, high = last / 2; low >= 1; low /= 2, high /= 2) {
                 for (int range = low; range <= high; range++) {
                     counting[range] = counting[2 * range] + counting[2 * range + 1];
                     sums[range] = innerSum(range);
                     hashInner(range, sha);
                     changed += keep(range, sha);
                 }
-                low /= 2;
-                high /= 2;
             }
             return changed;
         }
@@ -707,7 +703,7 @@ public final class DigestTrees {
         void turn(int slot, long v, int sign) {
             int mark = hash(MARK, slot, v);
             for (int j = 0; j < CELLS_OF_ROW; j++) {
-                int cell = cellOf(j, slot, v);
+                int cell = cellOf(j, hash(j, slot, v));
                 if (cell >= 0 && cell < MOST_CELLS) {
                     counts[cell] += sign;
                     keys[cell] ^= slot;
@@ -723,7 +719,11 @@ public final class DigestTrees {
                 if (cell == NONE) {
                     return;
                 }
-                takeOut(cell);
+                int sign = counts[cell];
+                int slot = keys[cell];
+                long v = values[cell];
+                tell(sign == 1 ? 0 : 1, slot, v);
+                turn(slot, v, -sign);
             }
         }
 
@@ -755,24 +755,20 @@ public final class DigestTrees {
             return marks[cell] == hash(MARK, keys[cell], values[cell]);
         }
 
-        private void takeOut(int cell) {
-            int sign = counts[cell];
-            int slot = keys[cell];
-            long v = values[cell];
+        private void tell(int side, int slot, long v) {
             if (foundSize < SLOTS) {
-                foundSides[foundSize] = sign == 1 ? 0 : 1;
+                foundSides[foundSize] = side;
                 foundSlots[foundSize] = slot;
                 foundValues[foundSize] = v;
                 foundSize++;
             }
-            turn(slot, v, -sign);
         }
 
-        private int cellOf(int j, int slot, long v) {
+        private int cellOf(int j, int h) {
             if (third < 1) {
                 return NONE;
             }
-            long unsigned = hash(j, slot, v) & 0xffffffffL;
+            long unsigned = h & 0xffffffffL;
             return j * third + (int) (unsigned % third);
         }
 

@@ -1,18 +1,14 @@
-import java.io.IOException;
 import java.lang.reflect.Constructor;
 import java.lang.reflect.Field;
 import java.lang.reflect.Method;
 import java.lang.reflect.Modifier;
-import java.nio.file.Files;
-import java.nio.file.Path;
 import java.util.ArrayList;
 import java.util.Arrays;
 import java.util.List;
 import java.util.Set;
 import java.util.TreeSet;
-import java.util.regex.Pattern;
 
-/** The class shows the document's face and nothing else, and its text keeps to what can be seen of LANGUAGE.md. */
+/** The class shows the document's face and nothing else. */
 public final class FaceTest {
     private static final String[] FACE = {
         "int row(int,int,int,long) throws IllegalArgumentException",
@@ -37,12 +33,11 @@ public final class FaceTest {
 
     private static int wrong = 0;
 
-    public static void main(String[] args) throws IOException {
+    public static void main(String[] args) {
         methodsAreTheFace();
         constructorIsTheFace();
         fieldsAreTheFace();
         nestedClassesAreHidden();
-        textKeepsToTheRules();
         System.out.println(wrong == 0 ? "the face is as due" : wrong + " faults of the face");
         if (wrong != 0) {
             System.exit(1);
@@ -133,20 +128,6 @@ public final class FaceTest {
                 if (Modifier.isStatic(field.getModifiers()) && !Modifier.isFinal(field.getModifiers())) {
                     fault("static and not final: " + field);
                 }
-            }
-        }
-    }
-
-    private static void textKeepsToTheRules() throws IOException {
-        String text = Files.readString(Path.of("src/main/java/DigestTrees.java"));
-        String[] refused = {
-            "\\bpackage\\b", "\\btry\\b", "\\bcatch\\b", "\\bfinally\\b", "->", "::", "\\bsynchronized\\b",
-            "\\bassert\\b", "Exact\\(", "static \\{", "System\\.(?!arraycopy)", "import (?!java\\.util\\."
-            + "(Arrays|NoSuchElementException);)",
-        };
-        for (String pattern : refused) {
-            if (Pattern.compile(pattern).matcher(text).find()) {
-                fault("the text holds " + pattern);
             }
         }
     }
